@@ -54,7 +54,7 @@ public final class DryIceLane {
             return NOT_POSSIBLE;
         }
         int ice = taken.ice;
-        now.lane.remove(box);
+        now.lane.takeOut(box);
         now.takenOut += ice;
         return ice;
     }
@@ -72,7 +72,7 @@ public final class DryIceLane {
         if (!now.settings.allows(setting, value)) {
             return BAD_VALUE;
         }
-        return now.settings.replace(setting, value);
+        return now.settings.change(setting, value);
     }
 
     // ---- the route
@@ -206,7 +206,7 @@ public final class DryIceLane {
             case 1: return asked.tare;
             case 2: return asked.ice;
             case 3: return asked.paper;
-            case 4: return asked.goingOff(now.hold.temperature, now.settings.valueOf(RATE));
+            case 4: return asked.goingOff(now.hold.temperature, now.settings.value(RATE));
             default: return BAD_VALUE;
         }
     }
@@ -216,7 +216,7 @@ public final class DryIceLane {
             return BAD_VALUE - GONE;
         }
         if (what >= FIRST_SETTING_NUMBER) {
-            return now.settings.valueOf(what - FIRST_SETTING_NUMBER);
+            return now.settings.value(what - FIRST_SETTING_NUMBER);
         }
         switch (what) {
             case 0: return now.time;
@@ -439,7 +439,7 @@ public final class DryIceLane {
         }
 
         boolean isSafe() {
-            return concentration() < settings.valueOf(SAFE);
+            return concentration() < settings.value(SAFE);
         }
 
         void letPass(int minutes) {
@@ -449,7 +449,7 @@ public final class DryIceLane {
         }
 
         void letMinutePass() {
-            int off = lane.letGoOff(hold.temperature, settings.valueOf(RATE));
+            int off = lane.letGoOff(hold.temperature, settings.value(RATE));
             wentOff += off;
             hold.letMinutePass(off, route.outsideNow(), settings);
             route.letMinutePass();
@@ -488,13 +488,13 @@ public final class DryIceLane {
             return within(setting, RATE, COOL) && within(value, SETTING_LEAST[setting], SETTING_MOST[setting]);
         }
 
-        int valueOf(int setting) {
+        int value(int setting) {
             return within(setting, RATE, COOL) ? values[setting] : 0;
         }
 
         /** Returns the previous value. */
-        int replace(int setting, int value) {
-            int previous = valueOf(setting);
+        int change(int setting, int value) {
+            int previous = value(setting);
             if (allows(setting, value)) {
                 values[setting] = value;
             }
@@ -563,7 +563,7 @@ public final class DryIceLane {
             count++;
         }
 
-        void remove(int box) {
+        void takeOut(int box) {
             if (within(box, 0, count - 1)) {
                 move(box, count - 1);
                 count--;
@@ -638,7 +638,7 @@ public final class DryIceLane {
         }
 
         long concentration(Settings settings) {
-            return quotient(gas, 2L * settings.valueOf(VOLUME));
+            return quotient(gas, 2L * settings.value(VOLUME));
         }
 
         void setVentMode(int mode) {
@@ -654,12 +654,9 @@ public final class DryIceLane {
             }
         }
 
-        /** A vent that is open already keeps its count. */
+        /** A vent that is shut has the count 0 already, and one that is open keeps its count. */
         void openVent() {
-            if (!ventOpen) {
-                ventOpen = true;
-                ventMinutes = 0;
-            }
+            ventOpen = true;
         }
 
         private void shutVent() {
@@ -673,13 +670,13 @@ public final class DryIceLane {
             loseGas(settings);
             long concentration = concentration(settings);
             moveVent(concentration, settings);
-            if (doorOpen && concentration >= settings.valueOf(SAFE)) {
+            if (doorOpen && concentration >= settings.value(SAFE)) {
                 alarms++;
             }
         }
 
         private void changeTemperature(int wentOff, int outside, Settings settings) {
-            int slow = settings.valueOf(SLOW);
+            int slow = settings.value(SLOW);
             temperature += (int) quotient(outside - temperature, slow);
             if (ventOpen) {
                 temperature += (int) quotient(outside - temperature, slow);
@@ -687,17 +684,17 @@ public final class DryIceLane {
             if (doorOpen) {
                 temperature += (outside - temperature) / 4;
             }
-            int cooled = temperature - (int) quotient(wentOff, settings.valueOf(COOL));
+            int cooled = temperature - (int) quotient(wentOff, settings.value(COOL));
             temperature = Math.max(cooled, Math.min(temperature, COLDEST_BY_ICE));
         }
 
         private void loseGas(Settings settings) {
-            gas -= gas * settings.valueOf(LEAK) / 1000;
+            gas -= gas * settings.value(LEAK) / 1000;
             if (ventOpen) {
-                gas -= gas * settings.valueOf(VENT) / 1000;
+                gas -= gas * settings.value(VENT) / 1000;
             }
             if (doorOpen) {
-                gas -= gas * settings.valueOf(DOOR) / 1000;
+                gas -= gas * settings.value(DOOR) / 1000;
             }
         }
 
@@ -705,12 +702,12 @@ public final class DryIceLane {
             if (ventMode != AUTO) {
                 keepToMode();
             } else if (!ventOpen) {
-                if (concentration >= settings.valueOf(OPENS)) {
+                if (concentration >= settings.value(OPENS)) {
                     openVent();
                 }
             } else {
                 ventMinutes++;
-                if (concentration <= settings.valueOf(SHUTS) && ventMinutes >= settings.valueOf(HOLD)) {
+                if (concentration <= settings.value(SHUTS) && ventMinutes >= settings.value(HOLD)) {
                     shutVent();
                 }
             }

@@ -1,4 +1,4 @@
-import java.util.Arrays;
+import java.util.function.LongSupplier;
 
 /** What the tests have in common: it counts the answers that are not due, and makes the vans that many tests begin with. */
 abstract class Checks {
@@ -21,7 +21,7 @@ abstract class Checks {
     }
 
     /** Checks that a call was refused with the error, and that it changed nothing that can be asked. */
-    static void refused(String call, DryIceLane van, java.util.function.LongSupplier caller, long error) {
+    static void refused(String call, DryIceLane van, LongSupplier caller, long error) {
         long[] before = picture(van);
         due(call, caller.getAsLong(), error);
         same(call + ", refused,", before, picture(van));
@@ -33,10 +33,13 @@ abstract class Checks {
         }
     }
 
-    static void differs(String what, long[] before, long[] after) {
-        if (Arrays.equals(before, after)) {
-            wrong++;
-            System.out.println(what + " changed nothing");
+    /** Checks that the first numbers of a picture are all others now. */
+    static void differs(String what, long[] before, long[] after, int numbers) {
+        for (int i = 0; i < numbers; i++) {
+            if (before[i] == after[i]) {
+                wrong++;
+                System.out.println(what + " left number " + i + " of the picture at " + before[i]);
+            }
         }
     }
 

@@ -1,0 +1,127 @@
+/** Promises 10 to 12: vent, open, shut. */
+final class HoldTest extends Checks {
+    public static void main(String[] args) {
+        vent();
+        ventRefused();
+        open();
+        openRefused();
+        openVentsInstead();
+        openVentsInTheModeShut();
+        openKeepsTheCount();
+        shut();
+        end();
+    }
+
+    private static void vent() {
+        DryIceLane van = new DryIceLane();
+        due("vent(AUTO)", van.vent(DryIceLane.AUTO), DryIceLane.AUTO);
+        due("vent stays shut", van.van(VENT_OPEN), 0);
+        due("vent(OPEN)", van.vent(DryIceLane.OPEN), DryIceLane.AUTO);
+        due("vent opens at once", van.van(VENT_OPEN), 1);
+        due("mode", van.van(VENT_MODE), DryIceLane.OPEN);
+        due("vent(AUTO)", van.vent(DryIceLane.AUTO), DryIceLane.OPEN);
+        due("vent stays open", van.van(VENT_OPEN), 1);
+        due("mode", van.van(VENT_MODE), DryIceLane.AUTO);
+        van.pass(2);
+        due("minutes", van.van(VENT_MINUTES), 2);
+        due("vent(SHUT)", van.vent(DryIceLane.SHUT), DryIceLane.AUTO);
+        due("vent shuts at once", van.van(VENT_OPEN), 0);
+        due("minutes of a shut vent", van.van(VENT_MINUTES), 0);
+        due("mode", van.van(VENT_MODE), DryIceLane.SHUT);
+        due("vent(SHUT) again", van.vent(DryIceLane.SHUT), DryIceLane.SHUT);
+        due("vent(OPEN)", van.vent(DryIceLane.OPEN), DryIceLane.SHUT);
+        due("minutes of a vent that opens", van.van(VENT_MINUTES), 0);
+        van.pass(100);
+        due("vent stays open in the mode OPEN", van.van(VENT_OPEN), 1);
+    }
+
+    private static void ventRefused() {
+        DryIceLane van = new DryIceLane();
+        van.vent(DryIceLane.OPEN);
+        refused("vent(-1)", van, () -> van.vent(-1), BAD_VALUE);
+        refused("vent(3)", van, () -> van.vent(3), BAD_VALUE);
+    }
+
+    private static void open() {
+        DryIceLane van = withGas(20001);
+        van.set(DryIceLane.SAFE, 10001);
+        due("open a little under SAFE", van.open(), 10000);
+        due("door", van.van(DOOR_OPEN), 1);
+        due("vent", van.van(VENT_OPEN), 0);
+        DryIceLane wide = withGas(20001);
+        wide.set(DryIceLane.VOLUME, 100);
+        due("open of a great volume", wide.open(), 100);
+        DryIceLane atStop = onTheWay(5, 0);
+        atStop.pass(5);
+        due("open at a stop", atStop.open(), atStop.van(CONCENTRATION));
+        due("door at a stop", atStop.van(DOOR_OPEN), 1);
+    }
+
+    private static void openRefused() {
+        DryIceLane van = onTheWay(5, 0);
+        refused("open on the way", van, van::open, NOT_POSSIBLE);
+        van.pass(4);
+        van.set(DryIceLane.SAFE, 1);
+        van.set(DryIceLane.VOLUME, 1);
+        refused("open on the way with much gas", van, van::open, NOT_POSSIBLE);
+        van.pass(1);
+        due("open with much gas", van.open(), NONE);
+        DryIceLane opened = opened();
+        refused("open of an open door", opened, opened::open, NOT_POSSIBLE);
+        DryIceLane gassed = withGas(20000);
+        gassed.open();
+        gassed.set(DryIceLane.SAFE, 1);
+        refused("open of an open door with much gas", gassed, gassed::open, NOT_POSSIBLE);
+    }
+
+    private static void openVentsInstead() {
+        DryIceLane van = withGas(20000);
+        van.set(DryIceLane.SAFE, 10000);
+        van.set(DryIceLane.SHUTS, 0);
+        due("open at SAFE", van.open(), NONE);
+        due("door", van.van(DOOR_OPEN), 0);
+        due("vent", van.van(VENT_OPEN), 1);
+        due("minutes", van.van(VENT_MINUTES), 0);
+        due("mode", van.van(VENT_MODE), DryIceLane.AUTO);
+        van.pass(3);
+        due("vent goes on in the mode AUTO", van.van(VENT_OPEN), 1);
+        due("minutes", van.van(VENT_MINUTES), 3);
+    }
+
+    private static void openVentsInTheModeShut() {
+        DryIceLane van = withGas(20000);
+        van.set(DryIceLane.SAFE, 10000);
+        van.set(DryIceLane.VENT, 100);
+        van.vent(DryIceLane.SHUT);
+        due("open at SAFE in the mode SHUT", van.open(), NONE);
+        due("vent", van.van(VENT_OPEN), 1);
+        due("mode", van.van(VENT_MODE), DryIceLane.SHUT);
+        van.pass(1);
+        due("vent after a minute", van.van(VENT_OPEN), 0);
+        due("gas that the minute vented", van.van(GAS), 18000);
+        van.pass(1);
+        due("gas of a shut vent", van.van(GAS), 18000);
+        due("open after that", van.open(), 9000);
+    }
+
+    private static void openKeepsTheCount() {
+        DryIceLane van = withGas(20000);
+        van.set(DryIceLane.SAFE, 10000);
+        van.set(DryIceLane.SHUTS, 0);
+        van.set(DryIceLane.OPENS, 1);
+        van.pass(4);
+        due("minutes", van.van(VENT_MINUTES), 3);
+        refused("open with an open vent", van, van::open, NONE);
+        due("minutes that an open vent keeps", van.van(VENT_MINUTES), 3);
+    }
+
+    private static void shut() {
+        DryIceLane van = withGas(20000);
+        refused("shut of a shut door", van, van::shut, NOT_POSSIBLE);
+        van.open();
+        van.set(DryIceLane.SAFE, 1);
+        due("shut", van.shut(), 10000);
+        due("door", van.van(DOOR_OPEN), 0);
+        refused("shut again", van, van::shut, NOT_POSSIBLE);
+    }
+}

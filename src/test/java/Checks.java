@@ -1,4 +1,7 @@
 import java.util.function.LongSupplier;
+import java.util.function.Supplier;
+import java.util.function.ToLongFunction;
+import java.util.stream.LongStream;
 
 /** What the tests have in common: it counts the answers that are not due, and makes the vans that many tests begin with. */
 abstract class Checks {
@@ -25,6 +28,34 @@ abstract class Checks {
         long[] before = picture(van);
         due(call, caller.getAsLong(), error);
         same(call + ", refused,", before, picture(van));
+    }
+
+    /**
+     * Checks the answer of a call that changes nothing: the van is then as one on which it was not made, with all that it
+     * holds, also the text and the slots, which no picture shows.
+     */
+    static void leavesAll(String call, Supplier<DryIceLane> maker, ToLongFunction<DryIceLane> caller, long want) {
+        DryIceLane van = maker.get();
+        due(call, caller.applyAsLong(van), want);
+        same(call + ", which changes nothing,", story(maker.get()), story(van));
+    }
+
+    /** What comes to light when the van goes on, restores what it has saved, and reads its text. It changes the van. */
+    static long[] story(DryIceLane van) {
+        LongStream.Builder told = LongStream.builder();
+        tell(told, van, 0);
+        tell(told, van, van.pass(7));
+        tell(told, van, van.restore(0));
+        tell(told, van, van.read());
+        tell(told, van, van.restore(1));
+        return told.build().toArray();
+    }
+
+    private static void tell(LongStream.Builder told, DryIceLane van, long answer) {
+        told.add(answer);
+        for (long number : picture(van)) {
+            told.add(number);
+        }
     }
 
     static void same(String what, long[] before, long[] after) {
@@ -108,6 +139,72 @@ abstract class Checks {
         van.shut();
         van.leg(minutes, outside);
         van.depart();
+        return van;
+    }
+
+    /** A van in which nothing has its first value: it stands at the stop of its first leg, with an open door. */
+    static DryIceLane used() {
+        DryIceLane van = new DryIceLane();
+        for (int setting = 0; setting < 11; setting++) {
+            van.set(setting, van.van(15 + setting) + 1);
+        }
+        van.set(DryIceLane.SHUTS, 0);
+        van.open();
+        van.load(3, 30, 900000);
+        van.load(5, 50, 800000);
+        van.load(7, 70, 700000);
+        van.unload(0);
+        van.sell(1000);
+        van.spill(1, 2000);
+        van.vent(DryIceLane.OPEN);
+        van.vent(DryIceLane.AUTO);
+        van.shut();
+        van.leg(4, 4000);
+        van.leg(8, -2000);
+        van.leg(9, -1000);
+        van.depart();
+        van.pass(6);
+        van.open();
+        van.set(DryIceLane.SAFE, 1);
+        van.pass(3);
+        return van;
+    }
+
+    /** A used van with a text of two legs, and with another van in the slot 0; nothing was saved in the slot 1. */
+    static DryIceLane busy() {
+        DryIceLane van = used();
+        van.save(0);
+        van.sell(5);
+        van.leg(10, 100);
+        van.pass(1);
+        write(van, "30@-5,600@50");
+        return van;
+    }
+
+    static DryIceLane busyAndShut() {
+        DryIceLane van = busy();
+        van.shut();
+        return van;
+    }
+
+    static DryIceLane busyOnTheWay() {
+        DryIceLane van = busyAndShut();
+        van.depart();
+        van.pass(3);
+        return van;
+    }
+
+    /** An open van that has as much as it can have: 10 boxes, 12 legs, and a correct text of 80 characters and 11 legs. */
+    static DryIceLane packed() {
+        DryIceLane van = opened();
+        van.save(0);
+        for (int i = 0; i < 10; i++) {
+            van.load(10 + i, i, 1000000 + i);
+        }
+        for (int i = 0; i < 12; i++) {
+            van.leg(1 + i, 100 * i);
+        }
+        write(van, "600@-40,600@-40,600@-40,600@-40,600@50,600@50,600@50,600@50,600@50,600@50,600@50");
         return van;
     }
 

@@ -1,3 +1,6 @@
+import java.util.List;
+import java.util.function.Supplier;
+
 /** Promises 21 to 24: atEnd, worst, purge, front. What can be done on a second van is done there and compared. */
 final class ForecastTest extends Checks {
     public static void main(String[] args) {
@@ -6,17 +9,27 @@ final class ForecastTest extends Checks {
         atEndAtAStop();
         atEndWithoutLegs();
         atEndShutsTheDoor();
+        atEndFromEverywhere();
         atEndHasNoEndOfTime();
         atEndRefused();
         worst();
         worstGoesOnAsItIs();
+        worstInTheMiddle();
+        worstHasNoEndOfTime();
         worstRefused();
         purge();
+        purgeOfTheMostMinutes();
+        purgeAtTheBoundsOfSafe();
+        purgeHasNoEndOfTime();
         purgeWithAllThatGoesOn();
         purgeRefused();
         front();
+        frontOfSeveral();
+        frontAtTheBoundsOfIce();
+        frontHasNoEndOfTime();
         frontAsItIs();
         frontRefused();
+        forecastsChangeNothing();
         end();
     }
 
@@ -98,6 +111,58 @@ final class ForecastTest extends Checks {
         same("atEnd with an open door", before, picture(van));
     }
 
+    /** The forecast from the start, from each minute of each leg, and from each stop is what comes when it is driven. */
+    private static void atEndFromEverywhere() {
+        for (int wait : new int[] {0, 1, 100}) {
+            for (int minute = 0; minute <= 15; minute++) {
+                DryIceLane van = threeLegs();
+                goTo(van, minute);
+                DryIceLane driven = threeLegs();
+                goTo(driven, minute);
+                driveToEnd(driven, wait);
+                due("atEnd with waits of " + wait + " from minute " + minute, van.atEnd(1, wait), driven.box(1, ICE));
+            }
+        }
+    }
+
+    private static DryIceLane threeLegs() {
+        DryIceLane van = opened();
+        van.load(1, 0, 50000);
+        van.load(3, 0, 5000000);
+        van.shut();
+        van.leg(5, 5000);
+        van.leg(1, -4000);
+        van.leg(4, 3000);
+        return van;
+    }
+
+    /** Passes minutes without a wait, but at the start, where the first of them passes. */
+    private static void goTo(DryIceLane van, int minutes) {
+        for (int i = 0; i < minutes; i++) {
+            if (i > 0) {
+                van.depart();
+            }
+            van.pass(1);
+        }
+    }
+
+    private static void driveToEnd(DryIceLane van, int wait) {
+        boolean reachesStop = van.van(MINUTES_LEFT) > 0;
+        for (int leg = van.van(LATEST_LEG); leg < van.van(LEGS); leg = van.van(LATEST_LEG)) {
+            if (van.van(MINUTES_LEFT) > 0) {
+                van.pass(van.van(MINUTES_LEFT));
+            }
+            if (leg == van.van(LEGS) - 1) {
+                return;
+            }
+            if (reachesStop && wait > 0) {
+                van.pass(wait);
+            }
+            van.depart();
+            reachesStop = true;
+        }
+    }
+
     private static void atEndHasNoEndOfTime() {
         DryIceLane van = opened();
         van.set(DryIceLane.RATE, 0);
@@ -160,6 +225,42 @@ final class ForecastTest extends Checks {
         return greatest;
     }
 
+    /** The gas behind the next minutes is 9000, 17100, and then less again. */
+    private static void worstInTheMiddle() {
+        DryIceLane van = opened();
+        van.load(1, 0, 20000);
+        van.shut();
+        van.vent(DryIceLane.SHUT);
+        van.set(DryIceLane.VOLUME, 1);
+        van.set(DryIceLane.LEAK, 100);
+        due("worst(1)", van.worst(1), 4500);
+        due("worst(2)", van.worst(2), 8550);
+        due("worst(3)", van.worst(3), 8550);
+        due("worst(1000)", van.worst(1000), 8550);
+        van.pass(2);
+        due("worst: what there is now does not count", van.worst(1000), 7695);
+    }
+
+    private static void worstHasNoEndOfTime() {
+        DryIceLane van = atTheEndOfTime(opened());
+        van.load(100, 0, 20000000);
+        van.shut();
+        van.vent(DryIceLane.SHUT);
+        van.set(DryIceLane.VOLUME, 1);
+        van.set(DryIceLane.LEAK, 0);
+        // the gas grows by 100 in each minute
+        due("worst behind the end of time", van.worst(1000), 50000);
+        refused("pass at the end of time", van, () -> van.pass(1), NOT_POSSIBLE);
+    }
+
+    private static DryIceLane atTheEndOfTime(DryIceLane van) {
+        for (int i = 0; i < 100; i++) {
+            van.pass(Math.min(1000, 100000 - van.van(TIME)));
+        }
+        due("time", van.van(TIME), 100000);
+        return van;
+    }
+
     private static void worstRefused() {
         DryIceLane van = onTheWay(5, 0);
         refused("worst(0)", van, () -> van.worst(0), BAD_VALUE);
@@ -190,6 +291,54 @@ final class ForecastTest extends Checks {
         asks(van, "purge with an open door", van.purge(1000), 5);
         van.set(DryIceLane.VENT, 0);
         asks(van, "purge without a way out", van.purge(1000), NONE);
+    }
+
+    /** 1999 of gas leak, 1 in a minute, and less than 1000 of it are safe. */
+    private static DryIceLane leaking() {
+        DryIceLane van = withGas(1999);
+        van.set(DryIceLane.SAFE, 500);
+        return van;
+    }
+
+    private static void purgeOfTheMostMinutes() {
+        DryIceLane van = leaking();
+        van.set(DryIceLane.LEAK, 1);
+        due("purge of 1000 in at most 1000", van.purge(1000), 1000);
+        due("purge of 1000 in at most 999", van.purge(999), NONE);
+        van.pass(1);
+        due("purge of 999 in at most 1000", van.purge(1000), 999);
+        due("purge of 999 in at most 999", van.purge(999), 999);
+        due("purge of 999 in at most 998", van.purge(998), NONE);
+        van.pass(997);
+        due("purge of 2 in at most 1", van.purge(1), NONE);
+        van.pass(1);
+        due("purge of 1 in at most 1", van.purge(1), 1);
+        van.pass(1);
+        due("purge of 0 in at most 1", van.purge(1), 0);
+    }
+
+    private static void purgeAtTheBoundsOfSafe() {
+        DryIceLane none = withGas(1);
+        none.set(DryIceLane.SAFE, 1);
+        due("purge at 0, SAFE 1", none.purge(1), 0);
+        DryIceLane little = withGas(2);
+        little.set(DryIceLane.SAFE, 1);
+        little.set(DryIceLane.VENT, 500);
+        due("purge at 1, SAFE 1", little.purge(1), 1);
+        DryIceLane much = withGas(99999);
+        due("purge at 49999, SAFE 50000", much.purge(1), 0);
+        much.open();
+        much.load(1, 0, 1);
+        much.pass(1);
+        much.set(DryIceLane.VENT, 1);
+        due("purge at 50000, SAFE 50000", much.purge(1), 1);
+        due("door is still open", much.van(DOOR_OPEN), 1);
+    }
+
+    private static void purgeHasNoEndOfTime() {
+        DryIceLane van = atTheEndOfTime(leaking());
+        van.set(DryIceLane.LEAK, 1);
+        due("purge behind the end of time", van.purge(1000), 1000);
     }
 
     private static void purgeWithAllThatGoesOn() {
@@ -251,6 +400,44 @@ final class ForecastTest extends Checks {
         due("front of the only box", one.front(50000, 1), 0);
     }
 
+    /** What little there is in a box goes off whole in 100 minutes, so it is better sold before. */
+    private static void frontOfSeveral() {
+        due("front of three that are alike", lane(5000, 5000, 5000).front(1000, 100), 0);
+        due("front of two that are best", lane(1000000, 5000, 5000).front(1000, 100), 1);
+        due("front of the last one", lane(1000000, 1000000, 5000).front(1000, 100), 2);
+        due("front of the middle one", lane(1000000, 5000, 1000000).front(1000, 100), 1);
+        due("front of the first and the last one", lane(5000, 1000000, 5000).front(1000, 100), 0);
+        due("front of ten", lane(20000, 20000, 20000, 20000, 20000, 20000, 20000, 20000, 20000, 5000).front(1, 100), 9);
+    }
+
+    private static void frontAtTheBoundsOfIce() {
+        due("front of the last milligram", lane(0, 1).front(1, 100), 0);
+        due("front of nothing but empty boxes before it", lane(0, 0, 20000).front(20000, 1), 0);
+        DryIceLane van = lane(20000000, 20000000, 20000000);
+        due("front of the most", van.front(50000000, 100), 0);
+        DryIceLane just = lane(20000000, 20000000, 10000000);
+        due("front of the most, which is all", just.front(50000000, 1), 0);
+        just.spill(2, 1);
+        refused("front of the most, which is more than all", just, () -> just.front(50000000, 1), NOT_POSSIBLE);
+    }
+
+    private static void frontHasNoEndOfTime() {
+        DryIceLane van = lane(1000000, 1000);
+        van.set(DryIceLane.RATE, 0);
+        atTheEndOfTime(van);
+        van.set(DryIceLane.RATE, 100);
+        due("front behind the end of time", van.front(500, 100), 1);
+    }
+
+    /** An open van whose boxes each lose 100 in a minute. */
+    private static DryIceLane lane(int... ice) {
+        DryIceLane van = opened();
+        for (int amount : ice) {
+            van.load(100, 0, amount);
+        }
+        return van;
+    }
+
     /** The box that is put to the front leaves the others in their order, and the hold goes on as it is. */
     private static void frontAsItIs() {
         for (int open = 0; open < 2; open++) {
@@ -310,6 +497,16 @@ final class ForecastTest extends Checks {
         refused("front, value before ice", van, () -> van.front(2001, 0), BAD_VALUE);
         refused("front of more than there is", van, () -> van.front(2001, 1), NOT_POSSIBLE);
         refused("front of all there is", van, () -> van.front(2000, 1), 0);
+    }
+
+    private static void forecastsChangeNothing() {
+        for (Supplier<DryIceLane> maker : List.<Supplier<DryIceLane>>of(
+                Checks::busy, Checks::busyAndShut, Checks::busyOnTheWay, Checks::packed)) {
+            leavesAll("atEnd", maker, van -> van.atEnd(1, 50), maker.get().atEnd(1, 50));
+            leavesAll("worst", maker, van -> van.worst(500), maker.get().worst(500));
+            leavesAll("purge", maker, van -> van.purge(500), maker.get().purge(500));
+            leavesAll("front", maker, van -> van.front(100000, 100), maker.get().front(100000, 100));
+        }
     }
 
     /** A van on the way, with gas, three boxes and three legs, the first of 10 minutes. */

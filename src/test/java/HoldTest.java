@@ -8,7 +8,12 @@ final class HoldTest extends Checks {
         openVentsInstead();
         openVentsInTheModeShut();
         openKeepsTheCount();
+        openAtTheBoundsOfSafe();
+        openInTheModeOpen();
+        sameModeSetsTheVentAgain();
+        autoLeavesTheVentAsItIs();
         shut();
+        shutWithMuchGas();
         end();
     }
 
@@ -113,6 +118,81 @@ final class HoldTest extends Checks {
         due("minutes", van.van(VENT_MINUTES), 3);
         refused("open with an open vent", van, van::open, NONE);
         due("minutes that an open vent keeps", van.van(VENT_MINUTES), 3);
+    }
+
+    private static void openAtTheBoundsOfSafe() {
+        DryIceLane van = withGas(1);
+        van.set(DryIceLane.SAFE, 1);
+        due("open at the concentration 0 of the gas 1", van.open(), 0);
+        DryIceLane little = withGas(2);
+        little.set(DryIceLane.SAFE, 1);
+        due("open at the least SAFE", little.open(), NONE);
+        due("door", little.van(DOOR_OPEN), 0);
+        due("open again: the door was shut", little.open(), NONE);
+        DryIceLane much = withGas(99999);
+        due("open a little under the most SAFE", much.open(), 49999);
+        due("alarms of a door that is opened", much.van(ALARMS), 0);
+    }
+
+    private static void openInTheModeOpen() {
+        DryIceLane van = withGas(20000);
+        van.set(DryIceLane.SAFE, 10000);
+        van.set(DryIceLane.SHUTS, 0);
+        van.vent(DryIceLane.OPEN);
+        van.vent(DryIceLane.AUTO);
+        van.pass(2);
+        van.vent(DryIceLane.OPEN);
+        refused("open at SAFE in the mode OPEN", van, van::open, NONE);
+        due("vent", van.van(VENT_OPEN), 1);
+        due("minutes", van.van(VENT_MINUTES), 2);
+    }
+
+    /** Each call that sets a mode, also the one that there is already, sets the vent at once. */
+    private static void sameModeSetsTheVentAgain() {
+        DryIceLane van = withGas(20000);
+        van.set(DryIceLane.SAFE, 10000);
+        van.vent(DryIceLane.SHUT);
+        van.open();
+        due("vent that was opened in the mode SHUT", van.van(VENT_OPEN), 1);
+        due("vent(SHUT) in the mode SHUT", van.vent(DryIceLane.SHUT), DryIceLane.SHUT);
+        due("vent is shut at once", van.van(VENT_OPEN), 0);
+        van.vent(DryIceLane.OPEN);
+        van.pass(3);
+        due("vent(OPEN) in the mode OPEN", van.vent(DryIceLane.OPEN), DryIceLane.OPEN);
+        due("vent stays open", van.van(VENT_OPEN), 1);
+        due("minutes", van.van(VENT_MINUTES), 0);
+    }
+
+    private static void autoLeavesTheVentAsItIs() {
+        DryIceLane van = withGas(20000);
+        van.set(DryIceLane.SAFE, 10000);
+        van.set(DryIceLane.SHUTS, 0);
+        van.vent(DryIceLane.SHUT);
+        due("vent(AUTO) with a shut vent", van.vent(DryIceLane.AUTO), DryIceLane.SHUT);
+        due("vent", van.van(VENT_OPEN), 0);
+        van.vent(DryIceLane.SHUT);
+        van.open();
+        due("vent(AUTO) with a vent that was opened in the mode SHUT", van.vent(DryIceLane.AUTO), DryIceLane.SHUT);
+        due("vent", van.van(VENT_OPEN), 1);
+        van.pass(2);
+        due("vent goes on", van.van(VENT_OPEN), 1);
+        due("minutes", van.van(VENT_MINUTES), 2);
+        due("vent(AUTO) in the mode AUTO", van.vent(DryIceLane.AUTO), DryIceLane.AUTO);
+        due("vent", van.van(VENT_OPEN), 1);
+        due("minutes that it keeps", van.van(VENT_MINUTES), 2);
+        van.vent(DryIceLane.SHUT);
+        van.vent(DryIceLane.OPEN);
+        due("minutes when it opens again", van.van(VENT_MINUTES), 0);
+    }
+
+    private static void shutWithMuchGas() {
+        DryIceLane van = withGas(0);
+        van.open();
+        van.load(1, 0, 200001);
+        van.pass(3);
+        due("shut with more than the most SAFE", van.shut(), 100000);
+        due("alarms", van.van(ALARMS), 3);
+        due("open then", van.open(), NONE);
     }
 
     private static void shut() {

@@ -9,6 +9,9 @@ final class NumbersTest extends Checks {
         way();
         account();
         askingChangesNothing();
+        soldBeyondAnInt();
+        spilledBeyondAnInt();
+        numbersAtTheBoundsOfALeg();
         end();
     }
 
@@ -163,5 +166,76 @@ final class NumbersTest extends Checks {
         van.pass(5);
         van.say('1');
         same("asking twice", picture(van), picture(van));
+        leavesAll("box", Checks::busyOnTheWay, asked -> asked.box(1, TARE), 70);
+        leavesAll("van", Checks::busyOnTheWay, asked -> asked.van(LEGS), 4);
+        leavesAll("way", Checks::busyOnTheWay, asked -> asked.way(3, 0), 10);
+        leavesAll("account", Checks::busyOnTheWay, asked -> asked.account(5), 2000);
+        leavesAll("fault", Checks::busyOnTheWay, DryIceLane::fault, NONE);
+        leavesAll("weigh", Checks::busyAndShut, asked -> asked.weigh(1) - asked.box(1, ICE), 70);
+    }
+
+    private static void soldBeyondAnInt() {
+        DryIceLane van = fullBoxes();
+        for (int batch = 0; batch < 11; batch++) {
+            for (int i = 0; i < 4; i++) {
+                due("sell from full boxes", van.sell(50000000), 3);
+            }
+            refillFullBoxes(van);
+        }
+        due("what was sold", van.account(4), 2200000000L);
+        due("what was put in", van.account(1), 2400000000L);
+        due("what was taken out", van.account(2), 0);
+    }
+
+    private static void spilledBeyondAnInt() {
+        DryIceLane van = fullBoxes();
+        for (int batch = 0; batch < 11; batch++) {
+            for (int box = 0; box < 10; box++) {
+                van.spill(box, 20000000);
+            }
+            refillFullBoxes(van);
+        }
+        due("what was spilled", van.account(5), 2200000000L);
+        due("what all boxes have", van.account(0), 200000000);
+    }
+
+    private static DryIceLane fullBoxes() {
+        DryIceLane van = opened();
+        for (int i = 0; i < 10; i++) {
+            van.load(1, 0, 20000000);
+        }
+        return van;
+    }
+
+    private static void refillFullBoxes(DryIceLane van) {
+        for (int i = 0; i < 10; i++) {
+            van.unload(0);
+            van.load(1, 0, 20000000);
+        }
+    }
+
+    /** The latest leg and its minutes: before the first leg, as it begins, in its last minute, and at its stop. */
+    private static void numbersAtTheBoundsOfALeg() {
+        DryIceLane van = new DryIceLane();
+        van.leg(2, 0);
+        van.leg(600, 0);
+        legIs(van, "at the start", NONE - GONE, 0);
+        van.depart();
+        legIs(van, "when the leg begins", 0, 2);
+        van.pass(1);
+        legIs(van, "in the last minute", 0, 1);
+        van.pass(1);
+        legIs(van, "at the stop", 0, 0);
+        van.depart();
+        legIs(van, "when the longest leg begins", 1, 600);
+        van.pass(599);
+        legIs(van, "in its last minute", 1, 1);
+        van.pass(1000);
+        legIs(van, "at its stop", 1, 0);
+    }
+
+    private static void legIs(DryIceLane van, String when, int latest, int left) {
+        due("latest leg " + when, van.van(LATEST_LEG), latest);
+        due("minutes left " + when, van.van(MINUTES_LEFT), left);
     }
 }

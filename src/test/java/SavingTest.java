@@ -12,7 +12,7 @@ final class SavingTest extends Checks {
     }
 
     private static void restoreBringsAllBack() {
-        DryIceLane van = full();
+        DryIceLane van = used();
         long[] before = picture(van);
         due("save", van.save(0), van.van(TIME));
         same("save", before, picture(van));
@@ -65,7 +65,7 @@ final class SavingTest extends Checks {
     }
 
     private static void restoredGoesOnAlike() {
-        DryIceLane van = full();
+        DryIceLane van = used();
         van.save(1);
         van.vent(DryIceLane.AUTO);
         goOn(van);
@@ -105,7 +105,7 @@ final class SavingTest extends Checks {
     }
 
     private static void refusals() {
-        DryIceLane van = full();
+        DryIceLane van = used();
         refused("save(-1)", van, () -> van.save(-1), BAD_VALUE);
         refused("save(2)", van, () -> van.save(2), BAD_VALUE);
         refused("restore(-1)", van, () -> van.restore(-1), BAD_VALUE);
@@ -114,34 +114,6 @@ final class SavingTest extends Checks {
         refused("restore(1) without save", van, () -> van.restore(1), NOT_POSSIBLE);
         van.save(0);
         refused("restore(2) with a save", van, () -> van.restore(2), BAD_VALUE);
-    }
-
-    /** A van in which nothing has its first value: it stands at the stop of its first leg, with an open door. */
-    private static DryIceLane full() {
-        DryIceLane van = new DryIceLane();
-        for (int setting = 0; setting < 11; setting++) {
-            van.set(setting, van.van(15 + setting) + 1);
-        }
-        van.set(DryIceLane.SHUTS, 0);
-        van.open();
-        van.load(3, 30, 900000);
-        van.load(5, 50, 800000);
-        van.load(7, 70, 700000);
-        van.unload(0);
-        van.sell(1000);
-        van.spill(1, 2000);
-        van.vent(DryIceLane.OPEN);
-        van.vent(DryIceLane.AUTO);
-        van.shut();
-        van.leg(4, 4000);
-        van.leg(8, -2000);
-        van.leg(9, -1000);
-        van.depart();
-        van.pass(6);
-        van.open();
-        van.set(DryIceLane.SAFE, 1);
-        van.pass(3);
-        return van;
     }
 
     private static void changeAll(DryIceLane van) {

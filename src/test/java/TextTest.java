@@ -7,8 +7,14 @@ final class TextTest extends Checks {
         correctTexts();
         faults();
         faultOfEveryCharacter();
+        everyDuration();
+        everyOutside();
+        leadingZeros();
+        faultOfASecondLeg();
         faultOfALongText();
+        faultGrowsWithTheText();
         read();
+        readOfEveryBound();
         readRefused();
         readToTheLimit();
         end();
@@ -123,6 +129,70 @@ final class TextTest extends Checks {
         }
     }
 
+    /** 0 is no duration, and a fourth digit or a greater number than 600 is one too many. */
+    private static void everyDuration() {
+        fault("0@0", 0);
+        for (int minutes = 1; minutes <= 600; minutes++) {
+            fault(minutes + "@0", NONE);
+        }
+        for (int minutes = 601; minutes <= 1100; minutes++) {
+            fault(minutes + "@0", minutes < 1000 ? 2 : 3);
+        }
+        fault("2147483648@0", 3);
+        fault("4294967297@0", 3);
+        fault("99999999999999999999@0", 2);
+    }
+
+    private static void everyOutside() {
+        for (int degrees = 0; degrees <= 120; degrees++) {
+            fault("1@" + degrees, degrees <= 50 ? NONE : degrees < 100 ? 3 : 4);
+            fault("1@-" + degrees, degrees <= 40 ? NONE : degrees < 100 ? 4 : 5);
+        }
+        fault("1@4294967296", 4);
+        fault("1@-4294967296", 4);
+    }
+
+    private static void leadingZeros() {
+        for (int digit = 0; digit <= 9; digit++) {
+            fault("0" + digit + "@1", 0);
+            fault("1@0" + digit, 3);
+            fault("1@-0" + digit, 4);
+            fault("1@1,0" + digit, 4);
+        }
+        fault("10@10", NONE);
+        fault("100@-10", NONE);
+        fault("1@0,1@-0,1@0", NONE);
+    }
+
+    /** A leg behind a comma goes wrong at the same places as the first one. */
+    private static void faultOfASecondLeg() {
+        String first = "600@-40,";
+        String[] texts = {
+            "", "0", "@", "-", ",", "601", "61", "7,", "7-", "7@", "7@@", "7@,", "7@-", "7@--", "7@-,", "7@51", "7@00", "7@-41",
+            "7@-00", "7@5@", "7@5-", "7@5,", "7@-5,", "7@500", "7@-400", "7@5x"
+        };
+        for (String text : texts) {
+            fault(first + text, first.length() + faultOf(text));
+        }
+        fault(first + "7@-40", NONE);
+        fault(first + "7@50", NONE);
+    }
+
+    /** The fault stays where it is, whatever comes behind it. */
+    private static void faultGrowsWithTheText() {
+        DryIceLane van = new DryIceLane();
+        String text = "59@-3,600@5";
+        int[] faults = {1, 2, 3, 4, NONE, 6, 7, 8, 9, 10, NONE};
+        for (int i = 0; i < text.length(); i++) {
+            van.say(text.charAt(i));
+            due("fault of " + text.substring(0, i + 1), van.fault(), faults[i]);
+        }
+        for (int length = 12; length <= 80; length++) {
+            van.say(length == 12 ? '1' : ',');
+            due("fault of " + length + " characters", van.fault(), 11);
+        }
+    }
+
     private static void faultOfALongText() {
         String legs = "1@0,1@0,1@0,1@0,1@0,1@0,1@0,1@0,1@0,1@0,1@0,1@0,1@0,1@0,1@0,1@0,1@0,1@0,1@0,1@0";
         fault(legs, NONE);
@@ -148,6 +218,23 @@ final class TextTest extends Checks {
         write(van, "5@12");
         due("read on the way", van.read(), 7);
         due("outside of the new leg", van.way(6, 1), 1200);
+    }
+
+    private static void readOfEveryBound() {
+        DryIceLane van = new DryIceLane();
+        write(van, "1@0,600@-0,1@50,600@-40,1@-1,9@9");
+        due("read", van.read(), 6);
+        int[] outsides = {0, 0, 5000, -4000, -100, 900};
+        for (int leg = 0; leg < 6; leg++) {
+            due("duration of leg " + leg, van.way(leg, 0), leg == 5 ? 9 : leg % 2 == 0 ? 1 : 600);
+            due("outside of leg " + leg, van.way(leg, 1), outsides[leg]);
+        }
+        due("outside temperature: no leg has begun", van.van(OUTSIDE), 2000);
+        due("latest leg", van.van(LATEST_LEG), NONE - GONE);
+        van.wipe();
+        write(van, "1@1,1@1,1@1,1@1,1@1,1@1");
+        due("read of as many legs as there is room for", van.read(), 12);
+        due("outside of the last leg", van.way(11, 1), 100);
     }
 
     private static void readRefused() {
